@@ -52,6 +52,7 @@ public final class PromisesTest {
         p32HeaviestLoss();
         p33MeanDaysLeft();
         p34Digest();
+        fullHouse();
         Check.end("PromisesTest");
     }
 
@@ -460,7 +461,9 @@ public final class PromisesTest {
         x.die(0);
         x.die(3);
         Check.due("mourningsOf(1) for two", x.mourningsOf(1), 2);
-        x.pass(20);
+        x.pass(19);
+        Check.due("mourningsOf(1) on the last day of one", x.mourningsOf(1), 2);
+        x.pass(1);
         Check.due("mourningsOf(1) as one is over", x.mourningsOf(1), 1);
         x.release(1, 0);
         Check.due("mourningsOf(1) as one was released", x.mourningsOf(1), 0);
@@ -575,6 +578,10 @@ public final class PromisesTest {
         Check.due("strictest()", x.strictest(), 1);
         x.pass(2);
         Check.due("strictest() in no colour", x.strictest(), 0);
+        MourningRibbons y = couple(4, 2, 1, 2, 0, 2);
+        y.die(1);
+        y.pass(1);
+        Check.due("strictest() of the person 0 on the last day of a stage", y.strictest(), 4);
     }
 
     private static void p28LongestMourner() {
@@ -587,7 +594,9 @@ public final class PromisesTest {
         Check.due("longestMourner()", x.longestMourner(), 3);
         x.release(3, 2);
         Check.due("longestMourner() of the rest", x.longestMourner(), 0);
-        x.pass(20);
+        x.pass(19);
+        Check.due("longestMourner() on the last day", x.longestMourner(), 0);
+        x.pass(1);
         Check.due("longestMourner() as all is over", x.longestMourner(), -1);
         MourningRibbons y = couple(0, 2, 0, 0, 0, 0);
         y.die(0);
@@ -617,6 +626,10 @@ public final class PromisesTest {
         y.die(3);
         y.pass(1);
         Check.due("daysWorn() in two mournings counts a day once", y.daysWorn(), 2);
+        MourningRibbons z = couple(5, 3, 5, 3, 1, 1);
+        z.die(1);
+        z.pass(200);
+        Check.due("daysWorn() of the person 0", z.daysWorn(), 7);
     }
 
     // ---- what would be
@@ -651,6 +664,10 @@ public final class PromisesTest {
         Check.due("wouldWear(2, 3), stricter then", x.wouldWear(2, 3), 5);
         x.setStage(1, 0, 4, 1);
         Check.due("wouldWear(2, 3) by the code of now", x.wouldWear(2, 3), 4);
+        x.pass(29);
+        Check.due("wouldWear(1, 2) on the last day of a stricter stage", x.wouldWear(1, 2), 5);
+        x.pass(1);
+        Check.due("wouldWear(1, 2) a day later", x.wouldWear(1, 2), 4);
         refusesNoPerson(x, "wouldWear(1, ..)", p -> x.wouldWear(1, p));
         refusesNoPerson(x, "wouldWear(.., 1)", p -> x.wouldWear(p, 1));
         Check.refuses(x, "wouldWear of nobody twice", INDEX, () -> x.wouldWear(16, 16));
@@ -691,6 +708,17 @@ public final class PromisesTest {
         Check.due("heaviestLoss() of the last one", x.heaviestLoss(), 5);
         x.die(5);
         Check.due("heaviestLoss() as all are dead", x.heaviestLoss(), -1);
+        MourningRibbons y = couple(1, 1, 0, 0, 0, 0);
+        y.addChild(3);
+        y.addChild(3);
+        y.addChild(3);
+        Check.due("heaviestLoss() of a colour on one day", y.heaviestLoss(), 3);
+        y.die(3);
+        // 4, 5 and 6 wear a colour today anyhow: with the death of 0 also 1 and 2 do.
+        Check.due("heaviestLoss() with mournings of strangers", y.heaviestLoss(), 0);
+        y.die(0);
+        // Everybody left wears a colour today: whoever dies, the days of four stay.
+        Check.due("heaviestLoss() as all wear a colour", y.heaviestLoss(), 1);
     }
 
     private static void p33MeanDaysLeft() {
@@ -706,6 +734,10 @@ public final class PromisesTest {
         x.die(2);
         x.die(3);
         Check.due("meanDaysLeft() as all are dead", x.meanDaysLeft(), 0.0);
+        MourningRibbons y = coded();
+        line(y, 2);
+        y.die(1);
+        Check.due("meanDaysLeft() of the person 0", y.meanDaysLeft(), 60.0);
     }
 
     private static void p34Digest() {
@@ -734,5 +766,29 @@ public final class PromisesTest {
             d = d * 31 + number;
         }
         Check.due("digest()", x.digest() == d ? 1 : 0, 1);
+    }
+
+    /** As many people as there can be: each answer once more. */
+    private static void fullHouse() {
+        MourningRibbons x = coded();
+        line(x, 16);
+        Check.due("wouldMourn(15)", x.wouldMourn(15), 4);
+        Check.due("heaviestLoss(), the first with kin of each degree on both sides", x.heaviestLoss(), 4);
+        Check.due("die(15)", x.die(15), 4);
+        Check.due("pass(1)", x.pass(1), 4);
+        Check.due("living()", x.living(), 15);
+        Check.due("degreeOf(15, 11)", x.degreeOf(15, 11), 4);
+        Check.due("kinOf(15, 4)", x.kinOf(15, 4), 1);
+        Check.due("colourOf(14)", x.colourOf(14), 5);
+        Check.due("daysLeft(11)", x.daysLeft(11), 2);
+        Check.due("strictest()", x.strictest(), 5);
+        Check.due("wearing(0)", x.wearing(0), 11);
+        Check.due("longestMourner()", x.longestMourner(), 14);
+        Check.due("meanDaysLeft()", x.meanDaysLeft(), (59 + 19 + 4 + 2) / 15.0);
+        Check.due("die(14)", x.die(14), 4);
+        Check.due("wouldWear(13, 12)", x.wouldWear(13, 12), 5);
+        Check.due("release(13, 15)", x.release(13, 15), 19);
+        Check.due("daysWorn()", x.daysWorn(), 4);
+        refusesNoPerson(x, "colourOf", x::colourOf);
     }
 }
