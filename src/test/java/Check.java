@@ -29,6 +29,10 @@ final class Check {
         System.out.println(what);
     }
 
+    static int count() {
+        return checks;
+    }
+
     /** The call has to throw exactly this exception, and to change nothing of x. */
     static void refuses(MourningRibbons x, String what, Class<? extends RuntimeException> due, Call call) {
         long before = x.digest();

@@ -56,43 +56,7 @@ public final class PromisesTest {
         Check.end("PromisesTest");
     }
 
-    // ---- what the tests begin with
-
-    /** A code with days in all degrees, no people. */
-    private static MourningRibbons coded() {
-        MourningRibbons x = new MourningRibbons();
-        x.setStage(1, 0, 5, 30);
-        x.setStage(1, 1, 3, 20);
-        x.setStage(1, 2, 1, 10);
-        x.setStage(2, 0, 3, 10);
-        x.setStage(2, 1, 1, 10);
-        x.setStage(3, 1, 2, 5);
-        x.setStage(4, 2, 4, 3);
-        return x;
-    }
-
-    /** 0, its child 1, and so on: each the child of the one ahead of it. */
-    private static MourningRibbons line(MourningRibbons x, int people) {
-        x.addPerson();
-        for (int person = 1; person < people; person++) {
-            x.addChild(person - 1);
-        }
-        return x;
-    }
-
-    /** The couple 0 and 1, whose child (of 0) is 2; 3 is alone; only the degree 1 has days. */
-    private static MourningRibbons couple(int colour0, int days0, int colour1, int days1, int colour2, int days2) {
-        MourningRibbons x = new MourningRibbons();
-        x.setStage(1, 0, colour0, days0);
-        x.setStage(1, 1, colour1, days1);
-        x.setStage(1, 2, colour2, days2);
-        x.addPerson();
-        x.addPerson();
-        x.marry(0, 1);
-        x.addChild(0);
-        x.addPerson();
-        return x;
-    }
+    // ---- wrong numbers
 
     private static void refusesNoPerson(MourningRibbons x, String what, OfPerson call) {
         for (int person : NO_PERSON) {
@@ -125,7 +89,7 @@ public final class PromisesTest {
                 Check.due("stageDays of a new object", x.stageDays(degree, stage), 0);
             }
         }
-        MourningRibbons y = coded();
+        MourningRibbons y = Made.coded();
         y.addPerson();
         Check.due("people() beside another object", x.people(), 0);
         Check.due("stageDays() beside another object", x.stageDays(1, 0), 0);
@@ -163,8 +127,8 @@ public final class PromisesTest {
     }
 
     private static void p04Marry() {
-        MourningRibbons x = coded();
-        line(x, 6);
+        MourningRibbons x = Made.coded();
+        Made.line(x, 6);
         x.addPerson();
         Check.due("marry strangers", x.marry(6, 5), 0);
         Check.due("marriedTo(5)", x.marriedTo(5), 6);
@@ -233,7 +197,7 @@ public final class PromisesTest {
     }
 
     private static void p05SetStageKeepsMournings() {
-        MourningRibbons x = couple(2, 3, 1, 4, 0, 0);
+        MourningRibbons x = Made.couple(2, 3, 1, 4, 0, 0);
         x.die(0);
         x.setStage(1, 0, 5, 60);
         x.setStage(1, 1, 4, 60);
@@ -248,8 +212,8 @@ public final class PromisesTest {
     // ---- deaths and days
 
     private static void p06Die() {
-        MourningRibbons x = coded();
-        line(x, 7);
+        MourningRibbons x = Made.coded();
+        Made.line(x, 7);
         Check.due("die(6): 5, 4, 3, 2 are kin, 1 and 0 are not", x.die(6), 4);
         Check.due("isAlive(6)", x.isAlive(6) ? 1 : 0, 0);
         int[] left = {0, 0, 3, 5, 20, 60, 0};
@@ -262,7 +226,7 @@ public final class PromisesTest {
         Check.due("mourningsOf(3), whose degree has no days", x.mourningsOf(3), 1);
         refusesNoPerson(x, "die", x::die);
         Check.refuses(x, "die of a dead one", STATE, () -> x.die(5));
-        MourningRibbons y = couple(0, 2, 0, 0, 0, 0);
+        MourningRibbons y = Made.couple(0, 2, 0, 0, 0, 0);
         Check.due("die mourned in no colour, but with days", y.die(0), 2);
         y.marry(1, 3);
         Check.due("one who becomes kin later does not mourn", y.mourningsOf(3), 0);
@@ -270,8 +234,8 @@ public final class PromisesTest {
     }
 
     private static void p06DeadMournNoMore() {
-        MourningRibbons x = coded();
-        line(x, 3);
+        MourningRibbons x = Made.coded();
+        Made.line(x, 3);
         x.die(0);
         Check.due("colourOf(1)", x.colourOf(1), 5);
         x.die(1);
@@ -286,8 +250,8 @@ public final class PromisesTest {
     }
 
     private static void p07Release() {
-        MourningRibbons x = coded();
-        line(x, 3);
+        MourningRibbons x = Made.coded();
+        Made.line(x, 3);
         x.die(0);
         x.pass(4);
         Check.due("release(1, 0)", x.release(1, 0), 56);
@@ -302,15 +266,15 @@ public final class PromisesTest {
         refusesNoPerson(x, "release(.., 0)", p -> x.release(p, 0));
         x.pass(16);
         Check.refuses(x, "release as it is over", STATE, () -> x.release(2, 0));
-        MourningRibbons y = coded();
-        line(y, 3);
+        MourningRibbons y = Made.coded();
+        Made.line(y, 3);
         y.die(0);
         y.pass(19);
         Check.due("release on the last day", y.release(2, 0), 1);
     }
 
     private static void p08Pass() {
-        MourningRibbons x = couple(5, 3, 0, 2, 1, 1);
+        MourningRibbons x = Made.couple(5, 3, 0, 2, 1, 1);
         x.die(0);
         Check.due("pass(2)", x.pass(2), 2);
         Check.due("pass(1) into a stage of no colour", x.pass(1), 0);
@@ -327,7 +291,7 @@ public final class PromisesTest {
     // ---- people and the code
 
     private static void p09To10PeopleLiving() {
-        MourningRibbons x = line(new MourningRibbons(), 5);
+        MourningRibbons x = Made.line(new MourningRibbons(), 5);
         Check.due("people()", x.people(), 5);
         Check.due("living()", x.living(), 5);
         x.die(4);
@@ -337,7 +301,7 @@ public final class PromisesTest {
     }
 
     private static void p11To13OfPerson() {
-        MourningRibbons x = line(new MourningRibbons(), 3);
+        MourningRibbons x = Made.line(new MourningRibbons(), 3);
         x.addPerson();
         x.marry(2, 3);
         x.die(2);
@@ -354,7 +318,7 @@ public final class PromisesTest {
     }
 
     private static void p14DegreeOf() {
-        MourningRibbons x = line(new MourningRibbons(), 6);
+        MourningRibbons x = Made.line(new MourningRibbons(), 6);
         int[] degrees = {0, 1, 2, 3, 4, 0};
         for (int person = 0; person < 6; person++) {
             Check.due("degreeOf(0, " + person + ")", x.degreeOf(0, person), degrees[person]);
@@ -376,7 +340,7 @@ public final class PromisesTest {
     }
 
     private static void p15KinOf() {
-        MourningRibbons x = line(new MourningRibbons(), 6);
+        MourningRibbons x = Made.line(new MourningRibbons(), 6);
         x.addChild(0);
         int[] kin = {2, 2, 1, 1};
         for (int degree = 1; degree <= 4; degree++) {
@@ -418,8 +382,8 @@ public final class PromisesTest {
     }
 
     private static void p19ColourOf() {
-        MourningRibbons x = coded();
-        line(x, 5);
+        MourningRibbons x = Made.coded();
+        Made.line(x, 5);
         x.die(0);
         Check.due("colourOf(1)", x.colourOf(1), 5);
         Check.due("colourOf(2)", x.colourOf(2), 3);
@@ -438,8 +402,8 @@ public final class PromisesTest {
     }
 
     private static void p20ColourIn() {
-        MourningRibbons x = coded();
-        line(x, 3);
+        MourningRibbons x = Made.coded();
+        Made.line(x, 3);
         x.die(0);
         x.pass(5);
         int[] days = {0, 24, 25, 44, 45, 54, 55, 200};
@@ -455,8 +419,8 @@ public final class PromisesTest {
     }
 
     private static void p21MourningsOf() {
-        MourningRibbons x = coded();
-        line(x, 4);
+        MourningRibbons x = Made.coded();
+        Made.line(x, 4);
         Check.due("mourningsOf(1)", x.mourningsOf(1), 0);
         x.die(0);
         x.die(3);
@@ -467,15 +431,15 @@ public final class PromisesTest {
         Check.due("mourningsOf(1) as one is over", x.mourningsOf(1), 1);
         x.release(1, 0);
         Check.due("mourningsOf(1) as one was released", x.mourningsOf(1), 0);
-        MourningRibbons y = couple(0, 2, 0, 0, 0, 0);
+        MourningRibbons y = Made.couple(0, 2, 0, 0, 0, 0);
         y.die(0);
         Check.due("mourningsOf in no colour", y.mourningsOf(1), 1);
         refusesNoPerson(x, "mourningsOf", x::mourningsOf);
     }
 
     private static void p22DaysLeftFor() {
-        MourningRibbons x = coded();
-        line(x, 4);
+        MourningRibbons x = Made.coded();
+        Made.line(x, 4);
         x.die(0);
         x.pass(3);
         x.die(3);
@@ -495,8 +459,8 @@ public final class PromisesTest {
     }
 
     private static void p23DaysLeft() {
-        MourningRibbons x = coded();
-        line(x, 4);
+        MourningRibbons x = Made.coded();
+        Made.line(x, 4);
         Check.due("daysLeft without a mourning", x.daysLeft(1), 0);
         x.die(3);
         x.pass(2);
@@ -504,14 +468,14 @@ public final class PromisesTest {
         x.die(0);
         Check.due("daysLeft(1) of two", x.daysLeft(1), 60);
         Check.due("daysLeft(2), of two the older one", x.daysLeft(2), 58);
-        MourningRibbons y = couple(1, 60, 2, 60, 0, 60);
+        MourningRibbons y = Made.couple(1, 60, 2, 60, 0, 60);
         y.die(0);
         Check.due("daysLeft counts a stage of no colour", y.daysLeft(2), 180);
         refusesNoPerson(x, "daysLeft", x::daysLeft);
     }
 
     private static void p24DaysUntilLighter() {
-        MourningRibbons x = couple(2, 5, 4, 5, 1, 5);
+        MourningRibbons x = Made.couple(2, 5, 4, 5, 1, 5);
         Check.due("daysUntilLighter without a mourning", x.daysUntilLighter(1), -1);
         x.die(0);
         Check.due("a stricter stage is not lighter", x.daysUntilLighter(1), 10);
@@ -521,10 +485,10 @@ public final class PromisesTest {
         Check.due("daysUntilLighter on the last day", x.daysUntilLighter(1), 1);
         x.pass(1);
         Check.due("daysUntilLighter behind it", x.daysUntilLighter(1), -1);
-        MourningRibbons y = couple(0, 5, 3, 5, 0, 0);
+        MourningRibbons y = Made.couple(0, 5, 3, 5, 0, 0);
         y.die(0);
         Check.due("daysUntilLighter in a stage of no colour", y.daysUntilLighter(1), -1);
-        MourningRibbons z = couple(3, 60, 3, 60, 3, 60);
+        MourningRibbons z = Made.couple(3, 60, 3, 60, 3, 60);
         z.die(0);
         Check.due("daysUntilLighter of the longest mourning", z.daysUntilLighter(1), 180);
         z.pass(100);
@@ -534,8 +498,8 @@ public final class PromisesTest {
     }
 
     private static void p25DaysIn() {
-        MourningRibbons x = coded();
-        line(x, 4);
+        MourningRibbons x = Made.coded();
+        Made.line(x, 4);
         x.die(0);
         x.pass(12);
         x.die(3);
@@ -549,14 +513,14 @@ public final class PromisesTest {
         for (int colour : new int[] {0, 6, -1, Integer.MIN_VALUE, Integer.MAX_VALUE}) {
             Check.refuses(x, "daysIn(1, " + colour + ")", INDEX, () -> x.daysIn(1, colour));
         }
-        MourningRibbons z = couple(3, 60, 2, 60, 3, 60);
+        MourningRibbons z = Made.couple(3, 60, 2, 60, 3, 60);
         z.die(0);
         Check.due("daysIn of the longest mourning", z.daysIn(1, 3), 120);
     }
 
     private static void p26Wearing() {
-        MourningRibbons x = coded();
-        line(x, 5);
+        MourningRibbons x = Made.coded();
+        Made.line(x, 5);
         x.addPerson();
         Check.due("wearing(0)", x.wearing(0), 6);
         x.die(0);
@@ -570,7 +534,7 @@ public final class PromisesTest {
     }
 
     private static void p27Strictest() {
-        MourningRibbons x = couple(4, 2, 1, 2, 0, 2);
+        MourningRibbons x = Made.couple(4, 2, 1, 2, 0, 2);
         Check.due("strictest() of none", x.strictest(), 0);
         x.die(0);
         Check.due("strictest()", x.strictest(), 4);
@@ -578,15 +542,15 @@ public final class PromisesTest {
         Check.due("strictest()", x.strictest(), 1);
         x.pass(2);
         Check.due("strictest() in no colour", x.strictest(), 0);
-        MourningRibbons y = couple(4, 2, 1, 2, 0, 2);
+        MourningRibbons y = Made.couple(4, 2, 1, 2, 0, 2);
         y.die(1);
         y.pass(1);
         Check.due("strictest() of the person 0 on the last day of a stage", y.strictest(), 4);
     }
 
     private static void p28LongestMourner() {
-        MourningRibbons x = coded();
-        line(x, 5);
+        MourningRibbons x = Made.coded();
+        Made.line(x, 5);
         Check.due("longestMourner() of none", x.longestMourner(), -1);
         x.die(2);
         Check.due("longestMourner() of two alike", x.longestMourner(), 1);
@@ -598,13 +562,13 @@ public final class PromisesTest {
         Check.due("longestMourner() on the last day", x.longestMourner(), 0);
         x.pass(1);
         Check.due("longestMourner() as all is over", x.longestMourner(), -1);
-        MourningRibbons y = couple(0, 2, 0, 0, 0, 0);
+        MourningRibbons y = Made.couple(0, 2, 0, 0, 0, 0);
         y.die(0);
         Check.due("longestMourner() in no colour", y.longestMourner(), 1);
     }
 
     private static void p29DaysWorn() {
-        MourningRibbons x = couple(5, 3, 0, 2, 1, 1);
+        MourningRibbons x = Made.couple(5, 3, 0, 2, 1, 1);
         x.die(0);
         Check.due("daysWorn() on the first day", x.daysWorn(), 0);
         x.pass(1);
@@ -620,13 +584,13 @@ public final class PromisesTest {
         x.die(4);
         x.pass(5);
         Check.due("daysWorn() of one who dies", x.daysWorn(), 9);
-        MourningRibbons y = couple(5, 3, 5, 3, 1, 1);
+        MourningRibbons y = Made.couple(5, 3, 5, 3, 1, 1);
         y.addChild(2);
         y.die(0);
         y.die(3);
         y.pass(1);
         Check.due("daysWorn() in two mournings counts a day once", y.daysWorn(), 2);
-        MourningRibbons z = couple(5, 3, 5, 3, 1, 1);
+        MourningRibbons z = Made.couple(5, 3, 5, 3, 1, 1);
         z.die(1);
         z.pass(200);
         Check.due("daysWorn() of the person 0", z.daysWorn(), 7);
@@ -635,8 +599,8 @@ public final class PromisesTest {
     // ---- what would be
 
     private static void p30WouldMourn() {
-        MourningRibbons x = coded();
-        line(x, 6);
+        MourningRibbons x = Made.coded();
+        Made.line(x, 6);
         long before = x.digest();
         Check.due("wouldMourn(5)", x.wouldMourn(5), 4);
         Check.due("wouldMourn(2)", x.wouldMourn(2), 5);
@@ -652,8 +616,8 @@ public final class PromisesTest {
     }
 
     private static void p31WouldWear() {
-        MourningRibbons x = coded();
-        line(x, 6);
+        MourningRibbons x = Made.coded();
+        Made.line(x, 6);
         long before = x.digest();
         Check.due("wouldWear(1, 0)", x.wouldWear(1, 0), 5);
         Check.due("wouldWear(3, 0) of a later stage", x.wouldWear(3, 0), 2);
@@ -680,7 +644,7 @@ public final class PromisesTest {
     private static void p32HeaviestLoss() {
         MourningRibbons x = new MourningRibbons();
         Check.due("heaviestLoss() of nobody", x.heaviestLoss(), -1);
-        line(x, 5);
+        Made.line(x, 5);
         Check.due("heaviestLoss() of all alike", x.heaviestLoss(), 0);
         x.setStage(1, 0, 3, 10);
         Check.due("heaviestLoss() of three alike", x.heaviestLoss(), 1);
@@ -708,7 +672,7 @@ public final class PromisesTest {
         Check.due("heaviestLoss() of the last one", x.heaviestLoss(), 5);
         x.die(5);
         Check.due("heaviestLoss() as all are dead", x.heaviestLoss(), -1);
-        MourningRibbons y = couple(1, 1, 0, 0, 0, 0);
+        MourningRibbons y = Made.couple(1, 1, 0, 0, 0, 0);
         y.addChild(3);
         y.addChild(3);
         y.addChild(3);
@@ -722,9 +686,9 @@ public final class PromisesTest {
     }
 
     private static void p33MeanDaysLeft() {
-        MourningRibbons x = coded();
+        MourningRibbons x = Made.coded();
         Check.due("meanDaysLeft() of nobody", x.meanDaysLeft(), 0.0);
-        line(x, 4);
+        Made.line(x, 4);
         Check.due("meanDaysLeft() of none", x.meanDaysLeft(), 0.0);
         x.die(0);
         Check.due("meanDaysLeft()", x.meanDaysLeft(), (60 + 20 + 5) / 3.0);
@@ -734,8 +698,8 @@ public final class PromisesTest {
         x.die(2);
         x.die(3);
         Check.due("meanDaysLeft() as all are dead", x.meanDaysLeft(), 0.0);
-        MourningRibbons y = coded();
-        line(y, 2);
+        MourningRibbons y = Made.coded();
+        Made.line(y, 2);
         y.die(1);
         Check.due("meanDaysLeft() of the person 0", y.meanDaysLeft(), 60.0);
     }
@@ -770,8 +734,8 @@ public final class PromisesTest {
 
     /** As many people as there can be: each answer once more. */
     private static void fullHouse() {
-        MourningRibbons x = coded();
-        line(x, 16);
+        MourningRibbons x = Made.coded();
+        Made.line(x, 16);
         Check.due("wouldMourn(15)", x.wouldMourn(15), 4);
         Check.due("heaviestLoss(), the first with kin of each degree on both sides", x.heaviestLoss(), 4);
         Check.due("die(15)", x.die(15), 4);
